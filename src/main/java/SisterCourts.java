@@ -44,9 +44,9 @@ public final class SisterCourts {
   public SisterCourts() {
     tape = new byte[TAPE_BYTES];
     taped = 0;
-    reader = new Reader(tape);
     told = new Courts();
     spare = new Courts();
+    reader = new Reader(tape, spare);
     calendar = new Calendar(told);
     search = new BestSearch(calendar);
     balance = new FairerSearch(calendar);
@@ -629,10 +629,10 @@ public final class SisterCourts {
     /** The answer that tells the FAULT at which readLine ended. */
     int fault;
 
-    Reader(byte[] tape) {
+    Reader(byte[] tape, Courts courts) {
       scanner = new Scanner(tape);
       names = new Names();
-      into = new Courts();
+      into = courts;
       fault = 0;
     }
 
