@@ -233,11 +233,11 @@ public final class SisterCourts {
   }
 
   public int bestOf(int day, int n, int i) {
-    if (!mayAskBest(day, n) || i < 0 || i >= n) {
+    if (!mayAskBest(day, n)) {
       return OTHERS;
     }
     search.find(day, n);
-    return i < search.asked ? search.chosen[i] : OTHERS;
+    return i >= 0 && i < search.asked ? search.chosen[i] : OTHERS;
   }
 
   public int take(int day, int n) {
@@ -1384,7 +1384,7 @@ public final class SisterCourts {
     }
   }
 
-  /** The bits of floats and doubles that are 0 or more, by steps none of which rounds. */
+  /** The bits of floats and doubles, by steps none of which rounds. */
   private static final class Bits {
     private static final int FLOAT_BIAS = 127;
     private static final int DOUBLE_BIAS = 1023;
@@ -1392,6 +1392,7 @@ public final class SisterCourts {
     private Bits() {
     }
 
+    /** Of a share, so of 0 to 1. */
     static int ofFloat(float number) {
       if (!(number > 0f)) {
         return 0;
@@ -1402,13 +1403,10 @@ public final class SisterCourts {
         part = part * 2f;
         exponent--;
       }
-      while (part >= 2f && exponent < 2 * FLOAT_BIAS) {
-        part = part / 2f;
-        exponent++;
-      }
       return (exponent << 23) + (int) ((part - 1f) * 8388608f);
     }
 
+    /** Of a spread, so of 0 or more. */
     static long ofDouble(double number) {
       if (!(number > 0.0)) {
         return 0L;

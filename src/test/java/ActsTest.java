@@ -8,6 +8,7 @@ public final class ActsTest {
     onlyTheLastTwelve();
     refusedCallsAreNoActs();
     keeps();
+    keepsOutlastActs();
     keepOthers();
     counts();
     Check.end();
@@ -102,6 +103,24 @@ public final class ActsTest {
     Check.due("count(3)", x.count(3), 2);
     Check.due("keep(0, true)", x.keep(0, true), true);
     Check.due("count(3)", x.count(3), 1);
+  }
+
+  private static void keepsOutlastActs() {
+    SisterCourts x = Check.told(TEXT);
+    x.set(0, 0, 1);
+    x.keep(0, false);
+    x.set(1, 1, 2);
+    x.keep(1, false);
+    for (int act = 0; act < 40; act++) {
+      x.clear(0);
+      x.set(0, 1, act);
+    }
+    Check.due("keep(0, true)", x.keep(0, true), true);
+    Check.due("file(0, 6)", x.file(0, 6), 1);
+    Check.due("count(3)", x.count(3), 1);
+    Check.due("keep(1, true)", x.keep(1, true), true);
+    Check.due("file(0, 6)", x.file(0, 6), 1);
+    Check.due("file(1, 6)", x.file(1, 6), 2);
   }
 
   private static void keepOthers() {

@@ -8,6 +8,7 @@ public final class BestTest {
     fewerOpenThanAsked();
     sameDayRules();
     take();
+    takeAll();
     others();
     Check.end();
   }
@@ -110,6 +111,17 @@ public final class BestTest {
     x.undo();
     Check.due("undo()", x.undo(), 0);
     Check.due("count(3)", x.count(3), 0);
+  }
+
+  private static void takeAll() {
+    SisterCourts x = Check.told("town a;judge j a 100 civil;judge k a 100 civil;"
+        + "case p a civil 3 60;case q a civil 2 50;case r a civil 2 40;");
+    Check.due("take(9, 5)", x.take(9, 5), 3);
+    int[] due = {1, 0, 0};
+    for (int file = 0; file < 3; file++) {
+      Check.due("file(" + file + ", 5)", x.file(file, 5), due[file]);
+      Check.due("file(" + file + ", 6)", x.file(file, 6), 9);
+    }
   }
 
   private static void others() {

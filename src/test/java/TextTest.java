@@ -158,6 +158,13 @@ public final class TextTest {
     faulty(a + "quarrel 1 k;", n + 8, 1);
     faulty(a + "case c a 5;", n + 9, 1);
     faulty(a + "case c a a 5;", n + 9, 1);
+    faulty(a + "case c a town e;", n + 9, 1);
+    faulty(a + "case c town e;", n + 7, 1);
+    faulty(a + "case c a land town e;", n + 14, 1);
+    faulty(a + "case c a land 5 town e;", n + 16, 1);
+    faulty(a + "case c a land 5 10 town e;", n + 19, 1);
+    faulty(a + "judge l a 60 town e;", n + 13, 1);
+    faulty(a + "judge l a 60 civil town e;", n + 19, 1);
     faulty(a + "case c a land;", n + 13, 1);
     faulty(a + "case c a land 1;", n + 15, 1);
     faulty(a + "case c a land 1 10 j;", n + 19, 1);
@@ -231,6 +238,13 @@ public final class TextTest {
     says(cases.toString(), 13);
     faulty(cases + "case", cases.length(), 5);
     faulty("town a;town case;", 12, 1);
+    StringBuilder all = new StringBuilder(cases);
+    for (char c = 'p'; c < 'p' + 6; c++) {
+      all.append("judge ").append(c).append(" a 60 land;");
+    }
+    all.append("town b;town c;town d;town e;");
+    says(all + "quarrel p u;road a e 1;", 25);
+    faulty(all + "road xl", all.length() + 5, 3);
   }
 
   private static void faultLeavesAllElse() {
@@ -290,7 +304,7 @@ public final class TextTest {
 
   private static void judge() {
     SisterCourts x = Check.told("town a;town b;judge j b 600 land;judge k a 60 family crime;"
-        + "judge l b 61 civil crime family land;quarrel l j;quarrel k l;quarrel j l;");
+        + "judge l b 61 civil crime family land;quarrel l j;quarrel l k;quarrel j l;");
     int[][] due = {{1, 600, 8, 4}, {0, 60, 6, 4}, {1, 61, 15, 3}};
     for (int judge = 0; judge < 3; judge++) {
       for (int what = 0; what < 4; what++) {
