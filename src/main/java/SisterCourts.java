@@ -864,16 +864,20 @@ public final class SisterCourts {
     }
 
     private int sortHere() {
-      if (scanner.isWord(CIVIL)) {
+      if (scanner.kind != Scanner.WORD) {
+        return NONE;
+      }
+      long word = scanner.word;
+      if (word == CIVIL) {
         return 0;
       }
-      if (scanner.isWord(CRIME)) {
+      if (word == CRIME) {
         return 1;
       }
-      if (scanner.isWord(FAMILY)) {
+      if (word == FAMILY) {
         return 2;
       }
-      return scanner.isWord(LAND) ? 3 : NONE;
+      return word == LAND ? 3 : NONE;
     }
   }
 
