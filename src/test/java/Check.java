@@ -1,24 +1,73 @@
+import java.io.IOException;
 import java.nio.charset.StandardCharsets;
+import java.nio.file.Files;
+import java.nio.file.Path;
 import java.util.NoSuchElementException;
 
-/** What the project's tests share: answers that are due, and texts put on the tape. */
+/** What the project's tests share: answers that are due, texts put on the tape, words of the document. */
 final class Check {
   /** A call whose answer counts as a long (a boolean counts 1 or 0). */
   interface Call {
     long answer();
   }
 
+  /** What no call takes for a number of something, at both ends. */
+  static final int[] FAR = {Integer.MIN_VALUE, Integer.MIN_VALUE + 1, -1000, 1000, Integer.MAX_VALUE};
+
+  private static final Path DOCUMENT = Path.of("../shared/DOC.md");
+
   private static int asked = 0;
   private static int wrong = 0;
+  private static String document = "";
+  private static String sentence = "";
+  private static int askedBeforeSentence = -1;
 
   private Check() {
+  }
+
+  /**
+   * What follows tests these words of the document: of a promise, or (0) of what stands ahead of the
+   * promises. Words that the document does not say there, or that nothing tests, are a failure.
+   */
+  static void sentence(int promise, String words) {
+    endSentence();
+    sentence = "[" + promise + ": " + words + "] ";
+    if (!part(promise).contains(plain(words))) {
+      wrong++;
+      System.out.println(sentence + "is not what the document says there");
+    }
+    askedBeforeSentence = asked;
+  }
+
+  private static void endSentence() {
+    if (asked == askedBeforeSentence) {
+      wrong++;
+      System.out.println(sentence + "is tested by nothing");
+    }
+  }
+
+  private static String part(int promise) {
+    if (document.isEmpty()) {
+      try {
+        document = plain(Files.readString(DOCUMENT));
+      } catch (IOException e) {
+        throw new IllegalStateException("no document at " + DOCUMENT, e);
+      }
+    }
+    int from = promise == 0 ? 0 : document.indexOf("## Promise " + promise + ":");
+    int to = from < 0 ? -1 : document.indexOf(promise == 0 ? "## Promise 1:" : "## ", from + 3);
+    return to < 0 ? "" : document.substring(from, to);
+  }
+
+  private static String plain(String words) {
+    return words.replaceAll("\\s+", " ").trim();
   }
 
   static void due(String call, long got, long want) {
     asked++;
     if (got != want) {
       wrong++;
-      System.out.println(call + " answered " + got + ", due is " + want);
+      System.out.println(sentence + call + " answered " + got + ", due is " + want);
     }
   }
 
@@ -26,12 +75,20 @@ final class Check {
     due(call, got ? 1L : 0L, want ? 1L : 0L);
   }
 
+  static void due(String call, String got, String want) {
+    asked++;
+    if (!got.equals(want)) {
+      wrong++;
+      System.out.println(sentence + call + " answered\n" + got + "\n, due is\n" + want);
+    }
+  }
+
   static void dueNoSuch(String call, Call made) {
     asked++;
     try {
       long got = made.answer();
       wrong++;
-      System.out.println(call + " answered " + got + ", due is a NoSuchElementException");
+      System.out.println(sentence + call + " answered " + got + ", due is a NoSuchElementException");
     } catch (NoSuchElementException e) {
       // as due
     }
@@ -68,7 +125,85 @@ final class Check {
     return x;
   }
 
+  /** Sets what the test itself needs: case, judge, day, and so on. */
+  static void sit(SisterCourts x, int... threes) {
+    for (int i = 0; i + 2 < threes.length; i += 3) {
+      if (!x.set(threes[i], threes[i + 1], threes[i + 2])) {
+        due("the test's own set(" + threes[i] + ", " + threes[i + 1] + ", " + threes[i + 2] + ")",
+            x.why(threes[i], threes[i + 1], threes[i + 2]), 0);
+      }
+    }
+  }
+
+  /** The judges of all cases, one behind the other. */
+  static String judges(SisterCourts x) {
+    return ofCases(x, 5);
+  }
+
+  /** The days of all sittings, by cases. */
+  static String days(SisterCourts x) {
+    return ofCases(x, 6);
+  }
+
+  private static String ofCases(SisterCourts x, int what) {
+    StringBuilder all = new StringBuilder();
+    int cases = x.count(2);
+    for (int file = 0; file < cases; file++) {
+      all.append(file == 0 ? "" : " ").append(x.file(file, what));
+    }
+    return all.toString();
+  }
+
+  static String loads(SisterCourts x) {
+    StringBuilder all = new StringBuilder();
+    int judges = x.count(1);
+    for (int judge = 0; judge < judges; judge++) {
+      all.append(judge == 0 ? "" : " ").append(x.load(judge));
+    }
+    return all.toString();
+  }
+
+  /** All that is told and all sittings, by calls that change nothing. */
+  static String seen(SisterCourts x) {
+    StringBuilder all = new StringBuilder();
+    for (int what = 0; what <= 5; what++) {
+      all.append(x.count(what)).append(' ');
+    }
+    int towns = x.count(0);
+    for (int from = 0; from < towns; from++) {
+      for (int to = 0; to < towns; to++) {
+        all.append(x.travel(from, to)).append(' ');
+      }
+    }
+    int judges = x.count(1);
+    for (int judge = 0; judge < judges; judge++) {
+      for (int what = 0; what <= 3; what++) {
+        all.append(x.judge(judge, what)).append(' ');
+      }
+    }
+    for (int what = 0; what <= 6; what++) {
+      all.append(ofCases(x, what)).append(' ');
+    }
+    return all.toString();
+  }
+
+  /**
+   * All that an object holds; it is used up: all is undone, then the keeps are gone back to. For small
+   * texts and few acts: nothing is promised of an object's calls beyond its 512th.
+   */
+  static String whole(SisterCourts x) {
+    StringBuilder all = new StringBuilder(seen(x));
+    while (x.undo() >= 0) {
+      all.append('\n').append(seen(x));
+    }
+    for (int k = 0; k <= 1; k++) {
+      all.append('\n').append(x.keep(k, true)).append(' ').append(seen(x));
+    }
+    return all.toString();
+  }
+
   static void end() {
+    endSentence();
     System.out.println(asked + " answers asked, " + wrong + " not as due");
     if (wrong != 0) {
       System.exit(1);
