@@ -143,6 +143,9 @@ public final class BoundsBestTest {
         + "case c a civil 0 100;case d a civil 0 70;");
     Check.due("130, 100 rather than 170 though their sum is more", sum.best(0, 2, 1), 130);
     Check.due("who", who(sum, 0, 2), "1 0");
+    SisterCourts squares = Check.told("town a;town b;road a b 0;judge j b 600 civil;judge k a 600 civil;"
+        + "case c a civil 0 100;case d a civil 0 40;");
+    Check.due("100, 100 rather than 140 though their squares are more", who(squares, 0, 2), "1 0");
     SisterCourts heard = Check.told("town a;judge j a 100 civil;case c a civil 0 60;case d a civil 0 50;"
         + "case e a civil 0 70;");
     Check.due("of as many heard the least", who(heard, 0, 3), "-1 0 -1");

@@ -204,6 +204,10 @@ public final class BoundsLoadsTest {
         + cases(100, 70, 20));
     Check.sit(second, 0, 0, 1, 1, 1, 1, 2, 1, 1);
     Check.due("100, 90, 0 to 100, 70, 20: the greatest stays", fairer(second), "1 to 2");
+    SisterCourts squares = Check.told("town a;judge j a 600 civil;judge k a 600 civil;judge l a 600 civil;"
+        + cases(45, 90, 45, 10));
+    Check.sit(squares, 0, 1, 1, 1, 0, 1, 2, 1, 1, 3, 0, 1);
+    Check.due("100, 90, 0 to 90, 90, 10 rather than 100, 45, 45", fairer(squares), "1 to 2");
   }
 
   private static void ofLikeOnes() {
@@ -296,6 +300,14 @@ public final class BoundsLoadsTest {
     Check.due("by the third one", x.lent(2, 0), 0);
     x.clear(0);
     Check.due("cleared", x.lent(0, 1), 20);
+    SisterCourts full = Check.told("town a;town b;judge j b 600 civil;"
+        + cases(10, 11, 12, 13, 14, 15, 16, 17, 18, 19, 20, 21));
+    Check.due("by none of twelve", full.lent(1, 0), 0);
+    Check.sit(full, 11, 0, 0);
+    Check.due("by the last of twelve", full.lent(1, 0), 21);
+    Check.due("all twelve are heard", full.go(0, 60), 11);
+    Check.due("by all twelve", full.lent(1, 0), 186);
+    Check.due("one payment for all twelve", full.payments(), 1);
   }
 
   private static void lentOthers() {
@@ -317,7 +329,7 @@ public final class BoundsLoadsTest {
   }
 
   private static void owed() {
-    Check.sentence(22, "OWED (it may be below 0); NoSuchElementException: none such.");
+    Check.sentence(0, "OWED by a TOWN: MINUTES LENT to it less those that it LENT.");
     SisterCourts x = Check.told("town a;town b;town d;judge j a 600 civil;judge k b 600 civil;judge l a 600 civil;"
         + "case c b civil 0 300;case e a civil 0 200;case f d civil 0 11;case g a civil 0 50;");
     for (int town = 0; town < 3; town++) {
@@ -335,6 +347,8 @@ public final class BoundsLoadsTest {
     x.clear(2);
     Check.sit(x, 3, 2, 0);
     Check.due("at home is nothing owed", x.owed(0), -100);
+    Check.sentence(22, "OWED (it may be below 0); NoSuchElementException: none such.");
+    Check.due("below 0", x.owed(0) < 0, true);
     for (int none : new int[] {-1, 3, 4, 5, Integer.MIN_VALUE, Integer.MAX_VALUE}) {
       Check.dueNoSuch("owed(" + none + ")", () -> x.owed(none));
     }

@@ -59,6 +59,19 @@ public final class BoundsSittingsTest {
     SisterCourts round = Check.told(towns + "road a d 9;road a c 1;road c e 1;road e b 1;road b d 1;");
     Check.due("over all others, backward and forward", round.travel(0, 3), 4);
     Check.due("the other way", round.travel(3, 0), 4);
+    for (int middle = 0; middle < 5; middle++) {
+      StringBuilder star = new StringBuilder(towns);
+      for (int town = 0; town < 5; town++) {
+        if (town != middle) {
+          star.append("road ").append((char) ('a' + town)).append(' ').append((char) ('a' + middle)).append(" 2;");
+        }
+      }
+      SisterCourts x = Check.told(star.toString());
+      int one = middle == 0 ? 1 : 0;
+      int other = middle == 4 ? 3 : 4;
+      Check.due("over " + middle, x.travel(one, other), 4);
+      Check.due("over " + middle + ", the other way", x.travel(other, one), 4);
+    }
     Check.sentence(0, "to itself 0;");
     for (int town = 0; town < 5; town++) {
       Check.due("travel(" + town + ", " + town + ")", round.travel(town, town), 0);
@@ -389,6 +402,10 @@ public final class BoundsSittingsTest {
   }
 
   private static void whyOthers() {
+    Check.sentence(0, "0: it MAY be set.");
+    SisterCourts free = Check.told(ONE);
+    Check.due("on the first day it may", free.why(0, 0, 5), 0);
+    Check.due("so it is set", free.set(0, 0, 5), true);
     Check.sentence(7, "WHY NOT (0 to 7); NONE: none such, no DAY.");
     SisterCourts x = Check.told(ONE);
     Check.due("it may be", x.why(0, 0, 5), 0);
@@ -475,6 +492,11 @@ public final class BoundsSittingsTest {
     }
     x.clear(0);
     Check.due("cleared", x.sits(0, 5), -1);
+    SisterCourts full = Check.told("town b;town a;judge j a 600 civil;judge k a 600 civil;" + cases(12));
+    Check.sit(full, 11, 1, 60);
+    Check.due("by the last of twelve", full.sits(1, 60), 1);
+    Check.due("by none of twelve", full.sits(0, 60), -1);
+    Check.due("by none of twelve", full.sits(1, 59), -1);
   }
 
   private static void minutes() {

@@ -164,6 +164,13 @@ public final class BoundsTextTest {
     Check.due("no way of the former text", x.travel(0, 1), -2);
     Check.due("nothing at all", x.courts(0), 0);
     Check.due("what is told", Check.seen(x), Check.seen(new SisterCourts()));
+    String full = TOLD + "road a b 1;quarrel j k;case d a land 1 10 bars k;";
+    for (String between : new String[] {"", TOLD, full, full + "?", TOLD + "town a;"}) {
+      SisterCourts y = Check.told(full);
+      Check.tell(y, between);
+      Check.due("after two others", Check.tell(y, TOLD + "case d a land 1 10;"), 6);
+      Check.due("what is told", Check.seen(y), Check.seen(Check.told(TOLD + "case d a land 1 10;")));
+    }
     Check.sentence(3, "no SITTINGS, nothing can be UNDONE, nothing is KEPT");
     for (String next : new String[] {TOLD, "", "town a;judge j a 60 civil;case c a civil 0 10;"}) {
       SisterCourts y = Check.told(TOLD);
@@ -171,8 +178,10 @@ public final class BoundsTextTest {
       y.keep(0, false);
       y.keep(1, false);
       y.clear(0);
+      Check.sit(y, 0, 0, 7);
       Check.due("lines", Check.tell(y, next) >= 0, true);
       Check.due("sittings", y.count(3), 0);
+      Check.due("judges of cases", Check.judges(y), next.isEmpty() ? "" : "-1");
       Check.due("acts", y.count(4), 0);
       Check.due("undo()", y.undo(), -1);
       Check.due("keep(0, true)", y.keep(0, true), false);
@@ -297,6 +306,9 @@ public final class BoundsTextTest {
     faulty("town a;judge j a |0100 land;", 1);
     faulty("town a;judge j a |4294967396 land;", 1);
     faulty("town a;judge j a |" + "0".repeat(700) + "60 land;", 1);
+    Check.due("one digit of two, cut by n", cut("town a;town b;road a b 10;", 24), fault(24, 1));
+    Check.due("two digits of two, cut by n", cut("town a;town b;road a b 10;", 25), fault(23, 4));
+    Check.due("three digits of four, cut by n", cut("town a;town b;road a b 0001;", 26), fault(26, 1));
     faulty("town a;judge j a |1000;", 1);
     faulty("town a;judge j a |999;", 4);
   }
@@ -500,6 +512,10 @@ public final class BoundsTextTest {
     Check.due("judges", x.count(1), 6);
     Check.due("cases", x.count(2), 12);
     says(all + "road a f 9;quarrel p u;", 25);
+    String turned = "town a;" + cases(12) + SIX_JUDGES + FIVE_TOWNS.substring(7);
+    says(turned + "road a f 9;quarrel p u;", 25);
+    says("town a;" + cases(12) + FIVE_TOWNS.substring(7) + SIX_JUDGES + "quarrel u p;road f a 9;", 25);
+    faulty(turned + "road a |xl 9;", 3);
     faulty(all + "|town g;", 5);
     faulty(all + "|judge g a 60 land;", 5);
     faulty(all + "|case g a land 0 10;", 5);

@@ -11,9 +11,6 @@ final class Check {
     long answer();
   }
 
-  /** What no call takes for a number of something, at both ends. */
-  static final int[] FAR = {Integer.MIN_VALUE, Integer.MIN_VALUE + 1, -1000, 1000, Integer.MAX_VALUE};
-
   private static final Path DOCUMENT = Path.of("../shared/DOC.md");
 
   private static int asked = 0;
