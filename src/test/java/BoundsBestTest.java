@@ -194,6 +194,21 @@ public final class BoundsBestTest {
     Check.due("its square", most.best(60, 5, 2), 4320L * 4320);
     Check.due("best sets nothing", x.count(3), 1);
     Check.due("best is no act", x.count(4), 1);
+    bestOfAll();
+  }
+
+  /** All six judges have loads; then fewer are told, and none of the former loads is left. */
+  private static void bestOfAll() {
+    for (String next : new String[] {"town a;judge j a 60 land;", "town a;"}) {
+      SisterCourts x = Check.told("town a;judge p a 600 civil;judge q a 600 civil;judge r a 600 civil;"
+          + "judge s a 600 civil;judge t a 600 civil;judge u a 600 civil;" + cases(6));
+      Check.due("six are heard", x.go(0, 0), 6);
+      Check.due("squares of six", x.best(0, 5, 2), 600);
+      Check.due("the greatest of six", x.best(0, 5, 1), 10);
+      Check.tell(x, next);
+      Check.due("squares, then " + next, x.best(0, 5, 2), 0);
+      Check.due("the greatest, then " + next, x.best(0, 5, 1), 0);
+    }
   }
 
   private static void bestOthers() {

@@ -378,6 +378,10 @@ public final class BoundsLoadsTest {
   private static void payments() {
     Check.sentence(0, "PAYMENTS: the fewest, each of any sum from one TOWN to another one, by which all is even.");
     Check.due("no towns", new SisterCourts().payments(), 0);
+    SisterCourts one = Check.told("town a;judge j a 600 civil;case c a civil 0 10;");
+    Check.due("one town", one.payments(), 0);
+    Check.sit(one, 0, 0, 0);
+    Check.due("one town, and a sitting", one.payments(), 0);
     Check.due("nothing lent", Check.told("town a;town b;town c;town d;town e;").payments(), 0);
     Check.due("at home", lending("a", "a", 30).payments(), 0);
     Check.due("c owes a", lending("a", "c", 30).payments(), 1);
